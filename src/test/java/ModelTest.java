@@ -1071,6 +1071,12 @@ public final class ModelTest {
                 wrong++;
                 System.out.println(told + "due is " + want);
             }
+            for (int k = 1; k < 7; k++) {
+                if (made.count(10 + k) != model.refusals[k]) {
+                    wrong++;
+                    System.out.println(told + "refusals with -" + k + ": " + made.count(10 + k) + ", due are " + model.refusals[k]);
+                }
+            }
         }
 
         private long due(String name, Class<?>[] types, Object[] values) throws Exception {
@@ -1121,6 +1127,37 @@ public final class ModelTest {
         }
     }
 
+    /** A small house in which two sitters are near to the cold and to airs, looked at by all that is only thought of. */
+    private static int lookAhead(long seed) throws Exception {
+        Random r = new Random(seed);
+        StringBuilder s = new StringBuilder();
+        for (int k = r.nextInt(3); k > 0; k--) {
+            s.append("a").append(r.nextInt(8)).append(r.nextInt(10)).append(two(r.nextInt(36))).append(r.nextInt(4)).append(';');
+        }
+        for (int k = 0; k < 2; k++) {
+            String cell = two(r.nextInt(36));
+            s.append("p").append(cell).append(r.nextInt(6)).append(";w").append(cell).append(two(r.nextInt(16))).append(';');
+        }
+        if (r.nextInt(3) == 0) {
+            s.append('l').append("tas".charAt(r.nextInt(3))).append(two(r.nextInt(10))).append(';');
+        }
+        Run run = new Run();
+        run.feed(s.toString());
+        run.call("house");
+        run.call("two", 0, 1, 1 + r.nextInt(8));
+        run.call("two", 1, 0, 1 + r.nextInt(30));
+        run.call("still", 0, r.nextInt(5), 2 + r.nextInt(19), 0);
+        run.call("sit", r.nextInt(2), r.nextInt(2));
+        run.call("shut", r.nextInt(2), r.nextInt(31));
+        run.call("most", r.nextInt(31));
+        run.call("leapt", 1 + r.nextInt(20), r.nextInt(2));
+        run.call("when", -1);
+        if (run.wrong > 0) {
+            System.out.println("house of seed " + seed);
+        }
+        return run.wrong;
+    }
+
     private static int run(long seed, List<String[]> calls) throws Exception {
         Random r = new Random(seed);
         Run run = new Run();
@@ -1158,7 +1195,7 @@ public final class ModelTest {
         int runs = args.length > 0 ? Integer.parseInt(args[0]) : RUNS;
         int wrong = 0;
         for (int seed = 0; seed < runs && wrong == 0; seed++) {
-            wrong += run(seed, calls);
+            wrong += run(seed, calls) + lookAhead(2L * seed) + lookAhead(2L * seed + 1);
         }
         System.out.println(wrong == 0 ? runs + " runs answer as the model does" : "not as the model");
         if (wrong != 0) {

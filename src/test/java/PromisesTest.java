@@ -1,3 +1,5 @@
+import java.util.function.LongSupplier;
+
 /** For each promise, 1 to 46, calls whose answers are worked out by hand from the document: ordinary ones, edges, wrong ones. */
 public final class PromisesTest {
     private static final int WARM_16 = Float.floatToIntBits(16f);
@@ -221,6 +223,10 @@ public final class PromisesTest {
         due("the zero below", x.warm(1), 0x80000000);
         due("the zero below, cut by a step", tell(x, "lc;t01;"), 2);
         due("is the one above", x.warm(1), 0);
+        x = told("lm00g00l00;");
+        x.warms(1, -77);
+        x.turns(1);
+        due("the zero below is not below 0, nor above it", x.warm(1), 0x80000000);
     }
 
     private static void promises8To12() {
@@ -626,6 +632,7 @@ public final class PromisesTest {
         due("behind 10 it is 7", x.sit(0, 1), 10);
         x.warms(14, 18);
         due("his own", x.sit(0, 0), 14);
+        due("60 and, further on, never", told("p000;w0067;w0168;w0067;ls08;").sit(0, 0), 1);
         x.shuts(3);
         x.warms(3, 50);
         due("a shut cell is none", x.sit(0, 0), 14);
@@ -737,6 +744,10 @@ public final class PromisesTest {
         // The one has what only the other needs.
         x = told("p000;p011;w0107;");
         due("the needy keeps", x.two(0, 1, 30), 10);
+        due("a storm near to both: no pair at all", told("a64210;p142;p282;").two(0, 1, 6), -9);
+        due("both keep", told("p093;p024;lt00;").two(0, 1, 8), 0);
+        due("the other gives", told("p025;p251;lt00;").two(0, 1, 8), 1);
+        due("the one gives", told("p301;p264;lt00;").two(0, 1, 8), 10);
         due("one twice", x.two(0, 0, 30), -1);
         due("no such one", x.two(2, 0, 0), -1);
         due("no such other", x.two(0, 2, 0), -1);
@@ -781,6 +792,9 @@ public final class PromisesTest {
         due("not above 16", x.coldest(0), 35);
         due("no such cell", x.coldest(36), -1);
         due("below -1", x.coldest(-2), -1);
+        due("of all the first", new DraughtsTake().coldest(-1), 0);
+        due("the second", told("w0115;").coldest(-1), 1);
+        due("the last", told("w3515;").coldest(-1), 35);
 
         promise = 32;
         x = told("w0099;lm01;t01;");
@@ -883,6 +897,11 @@ public final class PromisesTest {
         due("a cape of 3", x.wears(0, 0, 0), 4);
         due("a fur of 2", x.wears(0, 0, 1), 8);
         due("held", x.wears(0, 0, 2), 9);
+        x.wraps(0, 0);
+        x.hangs(0, 3, 2, 1);
+        due("a fur of 1", x.wears(0, 0, 3), 2);
+        x.back();
+        x.back();
         due("shawls", x.sitter(0, 1), 9);
         due("empty then", x.coat(0, 0), -15);
         due("worn twice", x.wears(0, 0, 0), -15);
@@ -980,6 +999,7 @@ public final class PromisesTest {
 
         promise = 46;
         theCounts();
+        refusalsAreCounted();
     }
 
     private static void theLots() {
@@ -1042,6 +1062,48 @@ public final class PromisesTest {
         due("none to take back", x.count(9), 0);
         x.turns(1);
         due("again", x.restore(), 1);
+    }
+
+    /** Each call here is refused with the number of its row: that one alone is counted, once. */
+    private static void refusalsAreCounted() {
+        DraughtsTake x = told("p140;p150;w1500;t01;a00000;");
+        LongSupplier[][] refused = {
+            {() -> x.air(1, 0), () -> x.sitter(2, 0), () -> x.cell(36, 0), () -> x.comes(0, 0, 36), () -> x.sitsDown(36),
+                () -> x.shuts(36), () -> x.warms(36, 0), () -> x.sits(2, 0), () -> x.sits(0, 36), () -> x.blows(1, 0),
+                () -> x.wraps(2, 0), () -> x.airThen(1, 0), () -> x.when(2), () -> x.sit(2, 0), () -> x.shut(2, 0),
+                () -> x.whatKind(1, 0), () -> x.howCold(1, 0, 0), () -> x.two(0, 0, 1), () -> x.still(2, 0, 2, 0),
+                () -> x.coldest(36), () -> x.nearest(2, 0), () -> x.pegs(3, 0, 0), () -> x.hangs(3, 0, 1, 0),
+                () -> x.coat(3, 0), () -> x.wears(0, 3, 0), () -> x.wears(2, 0, 0), () -> x.moves(3, 0, 0, 0, 0)},
+            {() -> x.air(0, 6), () -> x.sitter(0, 3), () -> x.cell(0, 5), () -> x.comes(8, 0, 0), () -> x.blows(0, 4),
+                () -> x.step(7, 0), () -> x.then(0, 3), () -> x.sit(0, 2), () -> x.leapt(1, 2), () -> x.whatKind(0, 2),
+                () -> x.still(0, 0, 2, 2), () -> x.sum(2), () -> x.nearest(0, 2), () -> x.kinds(8), () -> x.pegs(0, 3, 0),
+                () -> x.hangs(0, 0, 0, 0), () -> x.lots(1, 0, 2)},
+            {() -> x.comes(0, 0, 14), () -> x.sitsDown(0), () -> x.shuts(0), () -> x.sits(0, 0), () -> x.back(),
+                () -> x.sit(1, 0), () -> x.shut(1, 0), () -> x.two(0, 1, 1), () -> x.restore()},
+            {() -> x.feed(-1), () -> x.comes(0, -1, 1), () -> x.warms(0, -101), () -> x.wraps(0, -1), () -> x.step(0, -1),
+                () -> x.turns(0), () -> x.airThen(0, -1), () -> x.then(-1, 0), () -> x.shut(0, -1), () -> x.most(-1),
+                () -> x.leapt(0, 0), () -> x.howCold(0, -1, 0), () -> x.two(0, 1, 0), () -> x.still(0, -1, 2, 0),
+                () -> x.hangs(0, 0, 1, -1), () -> x.row(-1), () -> x.lots(0, 0, 0)},
+            {},
+            {() -> x.feed(256), () -> x.comes(0, 10, 1), () -> x.warms(0, 101), () -> x.wraps(0, 10), () -> x.step(0, 100),
+                () -> x.turns(61), () -> x.airThen(0, 61), () -> x.then(61, 0), () -> x.shut(0, 31), () -> x.most(31),
+                () -> x.leapt(61, 0), () -> x.howCold(0, 100, 0), () -> x.two(0, 1, 31), () -> x.still(0, 8, 2, 0),
+                () -> x.pegs(0, 0, 13), () -> x.hangs(0, 0, 1, 10), () -> x.row(100), () -> x.lots(21, 0, 0)}};
+        for (int k = 0; k < 6; k++) {
+            for (int c = 0; c < refused[k].length; c++) {
+                int[] were = new int[6];
+                for (int r = 0; r < 6; r++) {
+                    were[r] = x.count(11 + r);
+                }
+                long answer = refused[k][c].getAsLong();
+                due("call " + c + " refused with " + (-1 - k), answer > 0 ? 4000000000000000000L - answer : answer, -1 - k);
+                for (int r = 0; r < 6; r++) {
+                    due("call " + c + " refused with " + (-1 - k) + ", count " + r, x.count(11 + r) - were[r], r == k ? 1 : 0);
+                }
+            }
+        }
+        due("what they left", x.count(9) + x.count(8) + x.count(7) + x.count(6) + x.count(5), 0);
+        due("who is there", x.count(0) * 100 + x.count(1) * 10 + x.count(2), 121);
     }
 
     private static void theCounts() {
