@@ -32,8 +32,6 @@ public final class DraughtsTake {
     private static final int STORM = 6;
     private static final int CAT = 7;
     private static final int KINDS = 8;
-    /** The kind that each kind stands under. */
-    private static final int[] UNDER = {-1, DRAUGHT, DRAUGHT, GUST, SIGH, DRAUGHT, GALE, FLUE};
 
     private static final int STEP_T = 0;
     private static final int STEP_M = 1;
@@ -904,13 +902,6 @@ public final class DraughtsTake {
         return big;
     }
 
-    private static float held(float w) {
-        if (w > (float) MOST_WARM) {
-            return (float) MOST_WARM;
-        }
-        return w < (float) -MOST_WARM ? (float) -MOST_WARM : w;
-    }
-
     /** The bits of a float by arithmetic alone, since the library's own way to them is not to be had. */
     private static int bitsOf(float w) {
         if (w == 0.0f) {
@@ -936,6 +927,9 @@ public final class DraughtsTake {
 
     /** What the kinds of airs do. */
     private static final class Breath {
+        /** The kind that each kind stands under. */
+        private static final int[] UNDER = {-1, DRAUGHT, DRAUGHT, GUST, SIGH, DRAUGHT, GALE, FLUE};
+
         static int leaps(int kind, int figure) {
             switch (kind) {
                 case DRAUGHT: return 1;
@@ -1018,6 +1012,13 @@ public final class DraughtsTake {
                 made = stepped(steps[k], (float) numbers[k], made);
             }
             return held(made);
+        }
+
+        static float held(float w) {
+            if (w > (float) MOST_WARM) {
+                return (float) MOST_WARM;
+            }
+            return w < (float) -MOST_WARM ? (float) -MOST_WARM : w;
         }
 
         private static float stepped(int step, float n, float w) {
@@ -1252,12 +1253,12 @@ public final class DraughtsTake {
         }
 
         private void arrive(int air, int cell, int byWay) {
-            if (!isCell(cell)) {
+            if (cell < 0 || cell >= CELLS) {
                 return;
             }
             airCell[air] = cell;
             way[air] = byWay;
-            warmth[cell] = held(Breath.chills(kind[air], figure[air], turn, warmth[cell]));
+            warmth[cell] = Hearth.held(Breath.chills(kind[air], figure[air], turn, warmth[cell]));
         }
 
         /** The next cell by a way; -1 outside. */
