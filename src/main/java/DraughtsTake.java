@@ -1126,7 +1126,6 @@ public final class DraughtsTake {
             figure[airs] = newFigure;
             airCell[airs] = cell;
             way[airs] = newWay;
-            crownedBits &= ~(1 << airs);
             airs++;
             return true;
         }

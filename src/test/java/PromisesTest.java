@@ -632,6 +632,7 @@ public final class PromisesTest {
         due("behind 10 it is 7", x.sit(0, 1), 10);
         x.warms(14, 18);
         due("his own", x.sit(0, 0), 14);
+        due("cell 0", told("p140;w0099;ls99;").sit(0, 0), 0);
         due("60 and, further on, never", told("p000;w0067;w0168;w0067;ls08;").sit(0, 0), 1);
         x.shuts(3);
         x.warms(3, 50);
@@ -648,6 +649,7 @@ public final class PromisesTest {
         due("the place behind is shut", x.shut(0, 1), 14);
         due("0 turns: the least that is free", x.shut(0, 0), 2);
         due("one never off", x.shut(1, 30), 2);
+        due("cell 0", told("p140;").shut(0, 30), 0);
         x.warms(19, 5);
         due("none keeps him", x.shut(0, 1), -9);
         due("below", x.shut(0, -1), -4);
@@ -662,6 +664,7 @@ public final class PromisesTest {
         x = told("a00240;p190;a00300;p250;");
         due("19 is leapt over to 14, 25 to 20: of two the least", x.most(1), 14);
         due("0 turns", x.most(0), -9);
+        due("cell 0", told("a00143;p070;").most(1), 0);
         x = told("a13240;p190;p090;p350;");
         due("14 keeps two", x.most(1), 14);
         due("nobody is lost", told("p000;").most(30), -9);
@@ -773,6 +776,11 @@ public final class PromisesTest {
         due("of 1", x.still(0, 1, 4, 1), 1);
         due("the cold goes on: 0", x.still(1, 1, 4, 0), 0);
         due("of 1", x.still(1, 1, 4, 1), 1);
+        due("the hearth goes on in still turns: 0", told("p140;lm01;").still(0, 1, 2, 0), 0);
+        x = told("a00300;p200;");
+        due("it comes to him in one turn", x.still(0, 1, 2, 0) * 10 + x.still(0, 1, 2, 1), 11);
+        due("leaps in the second, if neither is still: 3 of 4", x.still(0, 2, 2, 0) * 10 + x.still(0, 2, 2, 1), 34);
+        x = told("a00240;p191;p350;w3500;");
         due("no such sitter", x.still(2, -1, 1, 2), 4000000000000000001L);
         due("n below", x.still(0, -1, 21, 2), 4000000000000000004L);
         due("t below", x.still(0, 8, 1, 2), 4000000000000000004L);
@@ -792,7 +800,7 @@ public final class PromisesTest {
         due("not above 16", x.coldest(0), 35);
         due("no such cell", x.coldest(36), -1);
         due("below -1", x.coldest(-2), -1);
-        due("of all the first", new DraughtsTake().coldest(-1), 0);
+        due("of all, the first", new DraughtsTake().coldest(-1), 0);
         due("the second", told("w0115;").coldest(-1), 1);
         due("the last", told("w3515;").coldest(-1), 35);
 
@@ -822,6 +830,7 @@ public final class PromisesTest {
         due("2", x.nearest(0, 1), 2);
         due("of one off, too: 3 rows and 1 column, 1 row and 3 columns", x.nearest(1, 0), 2);
         due("4", x.nearest(1, 1), 4);
+        due("the first air", told("a00000;a00350;p010;").nearest(0, 0), 0);
         due("no such sitter", x.nearest(2, 2), -1);
         due("no such what", x.nearest(0, 2), -2);
         due("what below", x.nearest(0, -1), -2);
@@ -924,6 +933,14 @@ public final class PromisesTest {
         x.hangs(0, 2, 2, 3);
         x.hangs(1, 2, 1, 7);
         due("no row", x.moves(0, 0, 2, 0, -1), -11);
+        DraughtsTake all = new DraughtsTake();
+        all.pegs(0, 1, 12);
+        all.pegs(1, 0, 12);
+        all.hangs(0, 11, 1, 0);
+        due("all twelve", all.moves(0, 0, 1, 0, 12), 12);
+        due("the last of them", all.coat(1, 11), 10);
+        due("where it was, too", all.coat(0, 11), 10);
+        due("a cape of 0 to capes", all.moves(1, 11, 0, 0, 1), 1);
         due("no row of the first", x.moves(2, 0, 0, 0, -1), -11);
         due("a fur stops it", x.moves(0, 0, 1, 0, 4), -12);
         due("those ahead are there", x.coat(1, 0) * 100 + x.coat(1, 1), 1112);
