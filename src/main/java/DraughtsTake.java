@@ -592,7 +592,7 @@ public final class DraughtsTake {
         }
         int many = 0;
         for (int air = 0; air < now.airs; air++) {
-            if (Breath.isOfKind(now.kind[air], kind)) {
+            if (now.kind[air] == kind) {
                 many++;
             }
         }
@@ -927,9 +927,6 @@ public final class DraughtsTake {
 
     /** What the kinds of airs do. */
     private static final class Breath {
-        /** The kind that each kind stands under. */
-        private static final int[] UNDER = {-1, DRAUGHT, DRAUGHT, GUST, SIGH, DRAUGHT, GALE, FLUE};
-
         static int leaps(int kind, int figure) {
             switch (kind) {
                 case DRAUGHT: return 1;
@@ -954,18 +951,6 @@ public final class DraughtsTake {
                 case CAT: return w * 0.5f + flue(figure, w) * 0.5f;
                 default: return w * 0.75f;
             }
-        }
-
-        /** An air is of its own kind and of all that this stands under. */
-        static boolean isOfKind(int own, int kind) {
-            int at = own;
-            for (int k = 0; k < KINDS && at >= 0 && at < KINDS; k++) {
-                if (at == kind) {
-                    return true;
-                }
-                at = UNDER[at];
-            }
-            return false;
         }
 
         private static int gustLeaps(int figure) {

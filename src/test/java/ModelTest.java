@@ -99,9 +99,6 @@ public final class ModelTest {
         }
     }
 
-    private static final Class<?>[] KIND = {
-        Draught.class, Gust.class, Sigh.class, Gale.class, Cellar.class, Flue.class, Storm.class, Cat.class};
-
     private static Draught breath(int kind, int figure, int cell, int way, boolean crowned) {
         Draught made = switch (kind) {
             case 0 -> new Draught();
@@ -806,7 +803,7 @@ public final class ModelTest {
 
         public int kinds(int kind) {
             what0(kind, 7);
-            return (int) now.airs.stream().filter(a -> KIND[kind].isInstance(a)).count();
+            return (int) now.airs.stream().filter(a -> a.kind == kind).count();
         }
 
         private void peg0(int p) {

@@ -836,11 +836,19 @@ public final class PromisesTest {
         due("what below", x.nearest(0, -1), -2);
 
         promise = 34;
-        x = told("a60000;a30010;a10020;a40030;a70040;");
-        int[] many = {5, 3, 1, 2, 1, 1, 1, 1};
-        for (int kind = 0; kind < 8; kind++) {
-            due("kind " + kind + " and those under it", x.kinds(kind), many[kind]);
+        for (int own = 0; own < 8; own++) {
+            x = new DraughtsTake();
+            x.comes(own, 0, 0);
+            for (int kind = 0; kind < 8; kind++) {
+                due("kind " + own + " asked for " + kind, x.kinds(kind), kind == own ? 1 : 0);
+            }
         }
+        x = told("a60000;a30010;a10020;a30030;a00040;");
+        int[] many = {1, 1, 0, 2, 0, 0, 1, 0};
+        for (int kind = 0; kind < 8; kind++) {
+            due("of kind " + kind, x.kinds(kind), many[kind]);
+        }
+        due("all of one", told("a70000;a71010;a72020;a73030;a79040;").kinds(7), 5);
         due("no airs", new DraughtsTake().kinds(0), 0);
         due("no such kind", x.kinds(8), -2);
         due("below", x.kinds(-1), -2);
