@@ -57,11 +57,10 @@ abstract class Due {
         return x.house();
     }
 
-    /** A new object with a house that has no fault. It has looked far ahead once, which must not show in anything. */
+    /** A new object with a house that has no fault. */
     static DraughtsTake told(String text) {
         DraughtsTake x = new DraughtsTake();
         due("house " + text, tell(x, text), text.chars().filter(c -> c == ';').count());
-        x.then(60, 0);
         return x;
     }
 

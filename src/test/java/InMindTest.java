@@ -99,6 +99,43 @@ public final class InMindTest extends Due {
         due("TURN 999 is odd", storm.howCold(0, 16, 7), 0b01000000);
     }
 
+    /** What is thought of ahead of a call leaves nothing that shows in its answer or in what it does. */
+    private static void leavesNothing() {
+        part("in mind alone");
+        Call[] thoughts = {x -> x.airThen(0, 59), x -> x.then(60, 0), x -> x.warmThen(0, 7), x -> x.when(-1), x -> x.when(0),
+            x -> x.sit(0, 0), x -> x.sit(1, 1), x -> x.shut(0, 30), x -> x.most(30), x -> x.leapt(31, 0), x -> x.whatKind(0, 0),
+            x -> x.whatKind(0, 1), x -> x.howCold(0, 9, 9), x -> x.two(0, 1, 29), x -> x.still(0, 7, 2, 0), x -> x.lots(3, 5, 0),
+            x -> tell(x, "a00340;d35;w0099;lc;t09;x"), x -> tell(x, "a00340;d35;w0099;lc;t09;d36;")};
+        Call[] calls = {x -> x.air(0, 2), x -> x.sitter(0, 0), x -> x.cell(14, 3), x -> x.comes(0, 0, 32), x -> x.sitsDown(32),
+            x -> x.shuts(32), x -> x.warms(7, 3), x -> x.sits(0, 32), x -> x.blows(0, 2), x -> x.wraps(0, 4), x -> x.step(2, 4),
+            DraughtsTake::clearHearth, x -> x.turns(2), DraughtsTake::back, x -> x.howCold(0, 12, 7), x -> x.coldest(-1),
+            x -> x.coldest(14), x -> x.sum(0), x -> x.nearest(0, 0), x -> x.nearest(0, 1), x -> x.kinds(0), x -> x.wears(0, 0, 0),
+            DraughtsTake::judge, DraughtsTake::image, DraughtsTake::restore, x -> x.lots(4, 4, 1), x -> x.when(-1),
+            x -> x.whatKind(0, 0), x -> x.two(0, 1, 5), x -> x.still(0, 3, 3, 0), x -> x.count(4), x -> tell(x, "p320;t02;")};
+        for (int c = 0; c < calls.length; c++) {
+            DraughtsTake alone = thoughtful();
+            long answer = calls[c].applyAsLong(alone);
+            String left = Look.at(alone);
+            for (int t = 0; t < thoughts.length; t++) {
+                DraughtsTake x = thoughtful();
+                thoughts[t].applyAsLong(x);
+                due("call " + c + " behind thought " + t, calls[c].applyAsLong(x), answer);
+                due("what call " + c + " left behind thought " + t, Look.at(x).equals(left) ? 1 : 0, 1);
+            }
+        }
+    }
+
+    private static DraughtsTake thoughtful() {
+        DraughtsTake x = told("a64210;a03003;p141;p282;p090;ls04;t01;");
+        x.pegs(0, 0, 1);
+        x.hangs(0, 0, 1, 3);
+        x.image();
+        x.blows(0, 1);
+        x.row(x.sitter(0, 2) == 1 ? x.sitter(0, 0) : 36);
+        x.row(x.sitter(1, 2) == 1 ? x.sitter(1, 0) : 36);
+        return x;
+    }
+
     private static void when() {
         part("WHEN");
         for (int t = 1; t <= 61; t++) {
@@ -347,6 +384,7 @@ public final class InMindTest extends Due {
         fraction("two of 3 at least, 1 in 2: 4 of 8", x, 0, 3, 2, 1, 2);
         fraction("two of 3 at least, 1 in 20: 58 of 8000", x, 0, 3, 20, 29, 4000);
         fraction("one of 2 at least, 1 in 3: 5 of 9", x, 0, 2, 3, 5, 9);
+        fraction("nor is it CROWNED in a still turn", told("a00301;p250;"), 0, 2, 2, 3, 4);
         x = told("p140;w1400;t01;");
         fraction("OFF now, no turns", x, 0, 0, 2, 0, 1);
         fraction("OFF now", x, 0, 7, 20, 0, 1);
@@ -424,6 +462,7 @@ public final class InMindTest extends Due {
         asTheyGoBy();
         sixtyTurnsOn();
         beyond999();
+        leavesNothing();
         when();
         sit();
         shut();

@@ -18,7 +18,6 @@ public final class KeptTest extends Due {
         x.pegs(0, 0, 2);
         x.hangs(0, 0, 1, 4);
         x.hangs(0, 1, 1, 0);
-        x.then(60, 0);
         return x;
     }
 
@@ -240,8 +239,13 @@ public final class KeptTest extends Due {
         due("the most", x.coat(0, 11), 29);
         x.hangs(0, 11, 1, 0);
         due("another coat instead", x.coat(0, 11), 10);
+        for (int i = 0; i < 12; i++) {
+            x.hangs(0, i, 1, i % 10);
+        }
         x.pegs(0, 0, 12);
-        due("a row anew is empty", x.coat(0, 11), -15);
+        for (int i = 0; i < 12; i++) {
+            due("a row anew is empty", x.coat(0, i), -15);
+        }
         x.pegs(0, 0, 0);
         due("a row of none has no place", x.coat(0, 0), -13);
         due("nor for wearing", told("p000;").wears(0, 0, 0), -11);

@@ -261,6 +261,7 @@ public final class PromisesTest extends Due {
         due("off", x.sitter(1, 2), 0);
         due("on his own cell again", x.sits(1, 15), 15);
         due("on", x.sitter(1, 2), 1);
+        due("the other one as well", x.count(4), 3);
         due("his own cell, on", x.sits(1, 15), -3);
         due("shut", x.sits(1, 16), -3);
         due("an air is there", x.sits(1, x.air(0, 2)), -3);
