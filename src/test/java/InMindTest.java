@@ -42,15 +42,15 @@ public final class InMindTest extends Due {
     private static void asTheyGoBy() {
         part("n TURNS on");
         for (String text : HOUSES) {
-            DraughtsTake x = told(text);
             for (int n = 0; n <= 60; n++) {
+                DraughtsTake x = told(text);
+                goOn(x, n);
                 due(text + " behind " + n, airsAndSittersThen(told(text), n).equals(airsAndSitters(x)) ? 1 : 0, 1);
                 int crowned = 0;
                 for (int air = 0; air < x.count(0); air++) {
                     crowned += x.air(air, 4);
                 }
                 due(text + " behind " + n + ", CROWNED", told(text).then(n, 2), crowned);
-                x.turns(1);
             }
         }
     }
@@ -369,8 +369,8 @@ public final class InMindTest extends Due {
 
     private static void still() {
         part("STILL");
-        DraughtsTake x = told("a00240;p190;p359;p300;w3000;");
         for (int t = 2; t <= 20; t++) {
+            DraughtsTake x = told("a00240;p190;p359;p300;w3000;");
             long below = 1;
             for (int n = 0; n <= 7; n++) {
                 fraction("all of " + n + " are still, 1 in " + t, x, 0, n, t, 1, below);
@@ -379,7 +379,7 @@ public final class InMindTest extends Due {
                 below *= t;
             }
         }
-        x = told("a00300;p200;");
+        DraughtsTake x = told("a00300;p200;");
         fraction("one of 2 at least, 1 in 2", x, 0, 2, 2, 3, 4);
         fraction("two of 3 at least, 1 in 2: 4 of 8", x, 0, 3, 2, 1, 2);
         fraction("two of 3 at least, 1 in 20: 58 of 8000", x, 0, 3, 20, 29, 4000);

@@ -53,15 +53,15 @@ public final class LettersTest extends Due {
         due("room again", x.feed('l'), 1);
         due("with a fault neither", x.house() * 10 + x.count(7), -10010);
         String l47 = "l;".repeat(47);
-        due("94", tell(x, l47), 47);
-        due("95", tell(x, l47 + "l"), -1095);
-        due("96 and no end", tell(x, l47 + "lc"), -1096);
-        due("a wrong one as the 96th", tell(x, l47 + "lx"), -1095);
-        due("the 97th is not told", tell(x, l47 + "l;x"), 48);
+        due("94", tell(new DraughtsTake(), l47), 47);
+        due("95", tell(new DraughtsTake(), l47 + "l"), -1095);
+        due("96 and no end", tell(new DraughtsTake(), l47 + "lc"), -1096);
+        due("a wrong one as the 96th", tell(new DraughtsTake(), l47 + "lx"), -1095);
+        due("the 97th is not told", tell(new DraughtsTake(), l47 + "l;x"), 48);
         due("one statement", tell(x, "l;"), 1);
     }
 
-    /** The statement's place is 4: the one ahead of it comes with it or not at all. */
+    /** The statement's place is 6: the one ahead of it comes with it or not at all. */
     private static void eachNumber() {
         part("FAULT, kind 2");
         String[] asItMustBe = {"a00000;", "a79353;", "p000;", "p359;", "d00;", "d35;", "w0000;", "w3599;", "t01;", "t60;", "l;", "lc;",
